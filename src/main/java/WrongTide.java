@@ -749,7 +749,6 @@ public final class WrongTide {
             System.arraycopy(other.steps, 0, steps, 0, other.stepCount);
             System.arraycopy(other.starts, 0, starts, 0, FORMULAS);
             System.arraycopy(other.ends, 0, ends, 0, FORMULAS);
-            stepCount = other.stepCount;
             gale = other.gale;
             statements = other.statements;
         }
@@ -1147,7 +1146,7 @@ public final class WrongTide {
 
         int needName() {
             if (kind != WORD || word != NONE) {
-                wrong();
+                fail(FAULT_GRAMMAR, spot);
                 return 0;
             }
             take();
@@ -1547,24 +1546,22 @@ public final class WrongTide {
         }
 
         private static int join(int step, int a, int b) {
+            long sum = 0;
             switch (step) {
-                case STEP_OR: return a | b;
-                case STEP_AND: return a & b;
-                case STEP_LESS: return a < b ? 1 : 0;
-                case STEP_MORE: return a > b ? 1 : 0;
-                case STEP_SAME: return a == b ? 1 : 0;
-                case STEP_PLUS: return bounded((long) a + b);
-                case STEP_MINUS: return bounded((long) a - b);
-                case STEP_TIMES: return bounded((long) a * b);
-                case STEP_BY: return b == 0 ? 0 : Math.floorDiv(a, b);
-                case STEP_REST: return b == 0 ? 0 : Math.floorMod(a, b);
-                case STEP_MIN: return Math.min(a, b);
-                case STEP_MAX: return Math.max(a, b);
-                default: return 0;
+                case STEP_OR: sum = a | b; break;
+                case STEP_AND: sum = a & b; break;
+                case STEP_LESS: sum = a < b ? 1 : 0; break;
+                case STEP_MORE: sum = a > b ? 1 : 0; break;
+                case STEP_SAME: sum = a == b ? 1 : 0; break;
+                case STEP_PLUS: sum = (long) a + b; break;
+                case STEP_MINUS: sum = (long) a - b; break;
+                case STEP_TIMES: sum = (long) a * b; break;
+                case STEP_BY: sum = b == 0 ? 0 : Math.floorDiv(a, b); break;
+                case STEP_REST: sum = b == 0 ? 0 : Math.floorMod(a, b); break;
+                case STEP_MIN: sum = Math.min(a, b); break;
+                case STEP_MAX: sum = Math.max(a, b); break;
+                default: break;
             }
-        }
-
-        private static int bounded(long sum) {
             return sum > MILLION ? MILLION : sum < -MILLION ? -MILLION : (int) sum;
         }
     }

@@ -165,6 +165,26 @@ public final class PromiseTest {
         h.due("80 statements", Harness.harbour(x, "gale 1;".repeat(80)), 80);
         h.due("81 statements", Harness.harbour(x, "gale 1;".repeat(81)), NONE);
         orderStaysWithItsHarbour();
+        nothingComesAlong();
+    }
+
+    private void nothingComesAlong() {
+        WrongTide x = Harness.told(STORM + "water 7;moon 8;rides 9;may not all;");
+        String bare = "ware w weighs 0 lifts 0;ship s holds 2 trims 0;loads s 0 w 9;berth b from 100 to 100;";
+        h.due("harbour()", Harness.harbour(x, bare), 4);
+        h.due("no water", x.has(4), 100);
+        h.due("no moon", x.has(5), 0);
+        h.due("no rides", x.ship(0, 6), 100);
+        h.due("no gale", x.gales(5), 0);
+        h.due("moor", x.moor(0, 0), true);
+        h.due("no may", x.lade(0, 0, 0), 10);
+        String longSum = "water 1" + "+hour".repeat(300) + ";";
+        for (int k = 0; k < 6; k++) {
+            h.due("a long sum again", Harness.harbour(x, longSum), 1);
+            h.due("tide(3, 0)", x.tide(3, 0), 901);
+        }
+        h.due("the longest sum", Harness.harbour(x, "water 1" + "+1".repeat(796) + ";"), 1);
+        h.due("tide(0, 0)", x.tide(0, 0), 797);
     }
 
     private int lastLoads() {
@@ -680,6 +700,13 @@ public final class PromiseTest {
             h.due("none such", one.swaps(wild, 0), NONE);
             h.due("none such", one.swaps(0, wild), NONE);
         }
+        WrongTide first = Harness.told(two + "loads s 0 w 1;loads s 1 v 4;loads t 0 v 1;loads t 1 w 1;");
+        h.due("the first one levels, the second one does not", first.swaps(0, 1), NONE);
+        h.due("the second one levels, the first one does not", first.swaps(1, 0), NONE);
+        WrongTide slack = Harness.told("ware w weighs 4 lifts 0;ware v weighs 1 lifts 0;ship s holds 2 trims 0;ship t holds 2 trims 4;"
+                + "loads s 0 w 1;loads s 1 v 1;loads t 1 v 1;");
+        h.due("each by its own trims", slack.swaps(0, 1), 1);
+        h.due("each by its own trims", slack.swaps(1, 0), 1);
         WrongTide full = Harness.told(two + "loads s 0 w 1;loads s 1 v 1;loads t 0 v 1;loads t 1 w 1;"
                 + "loads s 0 v 20;loads s 1 v 20;loads s 1 w 0;loads t 1 v 5;");
         h.due("no hold with more than 20 of a ware", full.swaps(0, 1), NONE);
@@ -694,6 +721,7 @@ public final class PromiseTest {
         rode(x, 1, 1, 0, 0, 0, 106, 0, 5, 0, 106);
         rode(x, 1, 0, 0, 0, 0, 106, 0, 5, 0, 107);
         h.due("nothing refused so far", x.status(5), 0);
+        rode(x, 0, 0, 0, 0, 39, 15);
         refusedRode(x, "a height of 10000", 0, 0, 0, 39, 16);
         refusedRode(x, "an hour of 10000", 0, 39, 16, 0, 0);
         refusedRode(x, "empty", 0);
@@ -790,6 +818,7 @@ public final class PromiseTest {
         WrongTide x = Harness.told(STORM + "ship z holds 4 trims 0;loads z 0 w 2;loads z 3 w 19;may not all;");
         h.due("shift, though in no berth and may holds not", x.shift(2, 0, 0, 3), true);
         h.due("crates(2, 0, 0)", x.crates(2, 0, 0), 1);
+        h.due("the last crate", x.shift(2, 0, 0, 1) && x.undo(), true);
         h.due("crates(2, 3, 0)", x.crates(2, 3, 0), 20);
         h.due("20 there already", x.shift(2, 0, 0, 3), false);
         h.due("into itself", x.shift(2, 0, 0, 0), false);
