@@ -136,7 +136,7 @@ public final class WrongTide {
 
     private final Tape tape;
     private final Plan plan;
-    private final Reader reader;
+    private final TextReader reader;
     private final Reckoner reckoner;
     private final Standing now;
     private final Standing told;
@@ -154,7 +154,7 @@ public final class WrongTide {
     public WrongTide() {
         tape = new Tape();
         plan = new Plan();
-        reader = new Reader(tape);
+        reader = new TextReader(tape);
         reckoner = new Reckoner(plan);
         now = new Standing();
         told = new Standing();
@@ -968,7 +968,7 @@ public final class WrongTide {
      * The tape as words, numbers and signs, one at a time. The next one is always read already, but a
      * fault in it is told only when the grammar asks for it: what stands ahead of it goes first.
      */
-    private static final class Scanner {
+    private static final class Lexer {
         static final int END = 0;
         static final int WORD = 1;
         static final int NUMBER = 2;
@@ -988,7 +988,7 @@ public final class WrongTide {
         int fault;
         int place;
 
-        Scanner(Tape tape) {
+        Lexer(Tape tape) {
             this.tape = tape;
             place = NONE;
             int letters = 0;
@@ -1155,14 +1155,14 @@ public final class WrongTide {
     }
 
     /** Reads a harbour's text into a draft, so that a fault leaves the harbour as it is. */
-    private static final class Reader {
-        final Scanner scan;
+    private static final class TextReader {
+        final Lexer scan;
         final Plan draft = new Plan();
         final Standing first = new Standing();
         final FormulaReader formulas;
 
-        Reader(Tape tape) {
-            scan = new Scanner(tape);
+        TextReader(Tape tape) {
+            scan = new Lexer(tape);
             formulas = new FormulaReader(scan, draft);
         }
 
@@ -1170,7 +1170,7 @@ public final class WrongTide {
             draft.clear();
             first.clear();
             scan.rewind();
-            for (int n = 0; n <= MOST_STATEMENTS && scan.fault == 0 && scan.kind != Scanner.END; n++) {
+            for (int n = 0; n <= MOST_STATEMENTS && scan.fault == 0 && scan.kind != Lexer.END; n++) {
                 if (n == MOST_STATEMENTS) {
                     scan.fail(FAULT_MANY, scan.start);
                 } else {
@@ -1266,11 +1266,11 @@ public final class WrongTide {
 
     /** Reads the sums and tests of the small language into steps; depth is how many ( [ not are open. */
     private static final class FormulaReader {
-        final Scanner scan;
+        final Lexer scan;
         final Plan draft;
         int seen;
 
-        FormulaReader(Scanner scan, Plan draft) {
+        FormulaReader(Lexer scan, Plan draft) {
             this.scan = scan;
             this.draft = draft;
         }
@@ -1337,7 +1337,7 @@ public final class WrongTide {
         }
 
         private int readComparison() {
-            int sign = scan.kind == Scanner.SIGN ? scan.value : NONE;
+            int sign = scan.kind == Lexer.SIGN ? scan.value : NONE;
             if (sign == '<' || sign == '>' || sign == '=') {
                 scan.take();
             } else {
@@ -1382,7 +1382,7 @@ public final class WrongTide {
         }
 
         private void readPart(int depth) {
-            if (scan.kind == Scanner.NUMBER) {
+            if (scan.kind == Lexer.NUMBER) {
                 scan.take();
                 draft.emit(scan.takenValue);
             } else if (scan.takeSign('(')) {
@@ -1426,7 +1426,7 @@ public final class WrongTide {
         }
 
         private void readSeen() {
-            for (int k = 0; k < SIGHTS && scan.kind == Scanner.WORD; k++) {
+            for (int k = 0; k < SIGHTS && scan.kind == Lexer.WORD; k++) {
                 if (((seen >> k) & 1) == 1 && scan.word == SEEN_WORD[k]) {
                     scan.take();
                     draft.emit(-1 - k);

@@ -692,6 +692,9 @@ public final class PromiseTest {
         h.due("all stays", one.tips(0), 3);
         WrongTide both = Harness.told(two + "loads s 0 w 2;loads s 1 v 2;loads t 0 v 2;loads t 1 w 2;");
         h.due("two swaps", both.swaps(0, 1), 2);
+        WrongTide same = Harness.told(two + "ship u holds 2 trims 999;loads s 0 w 2;loads s 1 v 2;loads u 0 v 2;");
+        h.due("two swaps of like crates", same.swaps(0, 2), 2);
+        h.due("two swaps of like crates", same.swaps(2, 0), 2);
         WrongTide more = Harness.told(two + "loads s 0 w 3;loads s 1 v 3;loads t 0 v 3;loads t 1 w 3;");
         h.due("three would be needed", more.swaps(0, 1), NONE);
         h.due("they are one", one.swaps(0, 0), NONE);
@@ -738,6 +741,9 @@ public final class PromiseTest {
         rode(tips, 0, 1, 0, 0, 0, 80);
         rode(tips, 0, 0, 0, 0, 0, 84);
         rode(tips, 0, 0, 0, 0, 0, 0);
+        WrongTide hour = Harness.told("ware w weighs 5 lifts 1;ship s holds 2 trims 0;rides hour*10+weight;");
+        rode(hour, 0, 1, 0, 3, 0, 45, 0, 1, 0, 25);
+        rode(hour, 0, 0, 0, 3, 0, 45, 0, 1, 0, 30);
     }
 
     private void rode(WrongTide x, int ship, int want, int... row) {
