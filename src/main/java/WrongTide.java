@@ -1471,10 +1471,12 @@ public final class WrongTide {
             for (int hold = 0; hold < plan.firstOf(SHIPS, ship); hold++) {
                 for (int ware = 0; ware < plan.counts[WARES]; ware++) {
                     int many = crates[cell(ship, hold, ware)];
-                    weight += many * plan.firstOf(WARES, ware);
-                    lift += many * plan.secondOf(WARES, ware);
-                    tip += side(hold) * many * plan.net(ware);
-                    count += many;
+                    if (many > 0) {
+                        weight += many * plan.firstOf(WARES, ware);
+                        lift += many * plan.secondOf(WARES, ware);
+                        tip += side(hold) * many * plan.net(ware);
+                        count += many;
+                    }
                 }
             }
             lookAt(weight, lift, tip, count);
@@ -1804,6 +1806,8 @@ public final class WrongTide {
         final Plan plan;
         final Reckoner reckoner;
         final int[] trial = new int[CELLS];
+        final int[] nets = new int[MOST_OF_KIND];
+        int spread;
         int one;
         int other;
         int oneTrims;
@@ -1820,6 +1824,7 @@ public final class WrongTide {
             other = second;
             oneTrims = plan.secondOf(SHIPS, first);
             otherTrims = plan.secondOf(SHIPS, second);
+            measureWares();
             int oneTip = reckoner.tipOf(trial, first);
             int otherTip = reckoner.tipOf(trial, second);
             if (Math.abs(oneTip) <= oneTrims && Math.abs(otherTip) <= otherTrims) {
@@ -1828,16 +1833,33 @@ public final class WrongTide {
             if (oneSwapLevels(oneTip, otherTip)) {
                 return 1;
             }
-            return twoSwapsLevel(oneTip, otherTip) ? 2 : NONE;
+            return isNear(oneTip, otherTip, 2) && twoSwapsLevel(oneTip, otherTip) ? 2 : NONE;
+        }
+
+        private void measureWares() {
+            int least = 0;
+            int most = 0;
+            for (int ware = 0; ware < plan.counts[WARES]; ware++) {
+                nets[ware] = plan.net(ware);
+                least = ware == 0 ? nets[ware] : Math.min(least, nets[ware]);
+                most = ware == 0 ? nets[ware] : Math.max(most, nets[ware]);
+            }
+            spread = most - least;
+        }
+
+        /** A swap moves a tip by the spread of the wares at most: what is farther off need not be tried. */
+        private boolean isNear(int oneTip, int otherTip, int swapsLeft) {
+            int reach = swapsLeft * spread;
+            return Math.abs(oneTip) <= oneTrims + reach && Math.abs(otherTip) <= otherTrims + reach;
         }
 
         /** A tip tells holds only by their sides, so sides and wares are all that need be tried. */
         private boolean oneSwapLevels(int oneTip, int otherTip) {
-            int wares = plan.counts[WARES];
+            int wares = isNear(oneTip, otherTip, 1) ? plan.counts[WARES] : 0;
             for (int k = 0; k < wares * wares; k++) {
                 int gives = k / wares;
                 int takes = k % wares;
-                int change = plan.net(takes) - plan.net(gives);
+                int change = nets[takes] - nets[gives];
                 for (int end = -1; gives != takes && end <= 1; end += 2) {
                     if (Math.abs(oneTip + end * change) <= oneTrims && canSwap(one, end, gives, takes)
                             && otherLevels(otherTip, change, gives, takes)) {
@@ -1887,7 +1909,7 @@ public final class WrongTide {
             if (gives == takes || trial[oneGets] >= MOST_CRATES || trial[otherGets] >= MOST_CRATES) {
                 return false;
             }
-            int change = plan.net(takes) - plan.net(gives);
+            int change = nets[takes] - nets[gives];
             trial[one * CELLS_OF_SHIP + k]--;
             trial[oneGets]++;
             trial[other * CELLS_OF_SHIP + j]--;
