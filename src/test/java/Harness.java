@@ -77,4 +77,31 @@ final class Harness {
         }
         return five;
     }
+
+    /** Sets the last byte of an image's row. */
+    static int[] sealed(int[] row) {
+        int c = 139;
+        for (int k = 0; k < row.length - 1; k++) {
+            c = (5 * c + row[k]) % 251;
+        }
+        row[row.length - 1] = c;
+        return row;
+    }
+
+    /** Puts on an image of what is there now, but in another hour. */
+    static boolean late(WrongTide tide, int hour) {
+        int[] row = new int[tide.image()];
+        for (int k = 2; k < row.length; k++) {
+            row[k] = tide.octet(k);
+        }
+        row[0] = hour / 256;
+        row[1] = hour % 256;
+        row(tide, sealed(row));
+        return tide.on();
+    }
+
+    /** The seed behind a DRAW. */
+    static long next(long seed) {
+        return (1103515245L * seed + 12345) % (1L << 31);
+    }
 }

@@ -453,24 +453,8 @@ public final class PromiseTest {
 
     /** The hour of an image of what is there now is set, and the image put on. */
     private void lateImage(WrongTide x, int hour) {
-        int[] row = new int[x.image()];
-        row[0] = hour / 256;
-        row[1] = hour % 256;
-        for (int k = 2; k < row.length; k++) {
-            row[k] = x.octet(k);
-        }
-        Harness.row(x, sealed(row));
-        h.due("on() in HOUR " + hour, x.on(), true);
+        h.due("on() in HOUR " + hour, Harness.late(x, hour), true);
         h.due("has(3)", x.has(3), hour);
-    }
-
-    private static int[] sealed(int[] row) {
-        int c = 139;
-        for (int k = 0; k < row.length - 1; k++) {
-            c = (5 * c + row[k]) % 251;
-        }
-        row[row.length - 1] = c;
-        return row;
     }
 
     private void ridesBySum() {
@@ -898,14 +882,14 @@ public final class PromiseTest {
         h.due("gales(1): one of each ship", x.gales(1), 2);
         h.due("the first by holds, then by wares", x.crates(0, 0, 1), 1);
         h.due("the first by holds, then by wares", x.crates(1, 0, 0), 19);
-        long seed = next(next(1));
+        long seed = Harness.next(Harness.next(1));
         h.due("a DRAW for each", x.has(10), seed);
         h.due("gales(3)", x.gales(3), 2 + 3);
         h.due("s is empty", x.ship(0, 5), 0);
         h.due("HOUR", x.has(3), 4);
         h.due("ACTS", x.has(9), 2);
         for (int k = 0; k < 6; k++) {
-            seed = next(seed);
+            seed = Harness.next(seed);
         }
         h.due("an empty ship draws too", x.has(10), seed);
         h.due("gales(0)", x.gales(0), NONE);
@@ -923,16 +907,12 @@ public final class PromiseTest {
         h.due("and lies in none", loose.has(6), 0);
     }
 
-    private static long next(long seed) {
-        return (1103515245L * seed + 12345) % (1L << 31);
-    }
-
     private void chance() {
         WrongTide x = Harness.told("ware w weighs 0 lifts 0;ship s holds 2 trims 0;loads s 0 w 20;loads s 1 w 20;gale 37;");
         h.due("seed(12345)", x.seed(12345), true);
         long seed = 12345;
         for (int k = 0; k < 60; k++) {
-            seed = next(seed);
+            seed = Harness.next(seed);
             h.due("lost by a draw below gale", x.gales(1), seed / 64 % 100 < 37 ? 1 : 0);
         }
         h.due("has(10)", x.has(10), seed);
@@ -999,7 +979,7 @@ public final class PromiseTest {
         h.due("status(5)", x.status(5), 2);
         Harness.harbour(x, STORM);
         x.gales(1);
-        h.due("two DRAWS from MAX", x.has(10), next(next(Integer.MAX_VALUE)));
+        h.due("two DRAWS from MAX", x.has(10), Harness.next(Harness.next(Integer.MAX_VALUE)));
     }
 
     private void kept() {
@@ -1059,9 +1039,9 @@ public final class PromiseTest {
         x.hours(200);
         x.hours(100);
         x.image();
-        int[] row = sealed(new int[] {1, 44, 1, 3, 0, 0, 1, 0, 0, 0, 0, 0, 0, 2, 0, 0, 0});
+        int[] row = Harness.sealed(new int[] {1, 44, 1, 3, 0, 0, 1, 0, 0, 0, 0, 0, 0, 2, 0, 0, 0});
         row[2] = x.ship(0, 2) + 1;
-        sealed(row);
+        Harness.sealed(row);
         for (int k = 0; k < row.length; k++) {
             h.due("octet(" + k + ")", x.octet(k), row[k]);
         }
@@ -1082,7 +1062,7 @@ public final class PromiseTest {
         WrongTide x = Harness.told(PORT);
         x.lade(0, 2, 0);
         stow(x, 1, 1, 1, 0);
-        int[] row = sealed(new int[] {39, 15, 2, 20, 1, 2, 3, 4, 5, 6, 7, 1, 8, 9, 10, 11, 0});
+        int[] row = Harness.sealed(new int[] {39, 15, 2, 20, 1, 2, 3, 4, 5, 6, 7, 1, 8, 9, 10, 11, 0});
         Harness.row(x, row);
         h.due("on()", x.on(), true);
         h.due("HOUR", x.has(3), 9999);
@@ -1107,7 +1087,7 @@ public final class PromiseTest {
         refusedOn(x, new int[0], "nothing");
         h.due("all stays", x.has(3), 9999);
         h.due("all stays", x.crates(1, 0, 0), 8);
-        int[] none = sealed(new int[] {0, 0, 0, 0, 0, 0, 0, 0, 0, 0, 0, 0, 0, 0, 0, 0, 0});
+        int[] none = Harness.sealed(new int[] {0, 0, 0, 0, 0, 0, 0, 0, 0, 0, 0, 0, 0, 0, 0, 0, 0});
         Harness.row(x, none);
         h.due("two ships may lie in none", x.on(), true);
         h.due("lying", x.has(6), 0);
@@ -1117,7 +1097,7 @@ public final class PromiseTest {
         int[] copy = row.clone();
         copy[at] = octet;
         copy[other] = otherOctet;
-        refusedOn(x, sealed(copy), why);
+        refusedOn(x, Harness.sealed(copy), why);
     }
 
     private void refusedOn(WrongTide x, int[] row, String why) {
