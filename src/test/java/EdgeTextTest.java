@@ -608,7 +608,7 @@ public final class EdgeTextTest {
 
     private void faultsLeaveAll() {
         h.topic("with a FAULT all stays");
-        Twins twins = new Twins(h, EdgeTextTest::busy);
+        Twins twins = new Twins(h, Twins::busy);
         twins.refusedText("x", 1, 0);
         twins.refusedText(WARE + "ware w", 2, WARE.length() + 5);
         twins.refusedText(SHIP + "loads t", 3, SHIP.length() + 6);
@@ -617,25 +617,10 @@ public final class EdgeTextTest {
         twins.refusedText("may not all;may all;", 6, 12);
         twins.refusedText(WARE + SHIP + BERTH + "loads s 0 w 9;lies s b;water 3;moon 3;rides 3;may not all;gale 0;;", 1,
                 (WARE + SHIP + BERTH + "loads s 0 w 9;lies s b;water 3;moon 3;rides 3;may not all;gale 0;").length());
-        WrongTide x = busy();
+        WrongTide x = Twins.busy();
         Harness.harbour(x, "may not all;gale 0;x");
         h.due("may stays", x.lade(0, 0, 0), 4);
         x.moor(0, WrongTide.NONE);
-        h.due("gale stays", x.gales(1), 1);
-    }
-
-    /** Something of all there is: a row stowed, a row ordered, an image, what is kept, acts. */
-    private static WrongTide busy() {
-        WrongTide x = Harness.told("ware tea weighs 2 lifts 3;ware tin weighs 5 lifts 0;ship brig holds 4 trims 99;ship hoy holds 2 trims 9;"
-                + "berth quay from 0 to 9999;loads brig 0 tea 2;lies brig quay;water 50+hour;moon 7;rides water+weight;may count<9;gale 100;");
-        Harness.row(x, 0, 1, 1);
-        x.stow(0);
-        Harness.row(x, 0, 0, 1, 1);
-        x.order(0);
-        x.image();
-        x.lade(0, 0, 0);
-        x.hours(3);
-        x.seed(99);
-        return x;
+        h.due("gale stays", x.gales(1), 2);
     }
 }

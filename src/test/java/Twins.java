@@ -19,6 +19,22 @@ final class Twins {
         this.maker = maker;
     }
 
+    /** A harbour with something of all there is: rows stowed and ordered, an image, what is kept, acts, another seed. */
+    static WrongTide busy() {
+        WrongTide x = Harness.told("ware tea weighs 2 lifts 3;ware tin weighs 5 lifts 0;ship brig holds 4 trims 199;ship hoy holds 2 trims 9;"
+                + "berth quay from 0 to 9999;berth pole from 500 to 600;loads brig 0 tea 2;loads brig 3 tin 20;loads hoy 0 tin 1;"
+                + "lies brig quay;water 50+hour;moon 7;rides water+weight;may count<25;gale 100;");
+        Harness.row(x, 0, 1, 1);
+        x.stow(0);
+        Harness.row(x, 1, 1, 0, 0);
+        x.order(0);
+        x.image();
+        x.lade(0, 0, 0);
+        x.hours(3);
+        x.seed(99);
+        return x;
+    }
+
     /** The call is answered so and counted in status(kind); all else stays. */
     void refused(String call, int kind, int answer, ToIntFunction<WrongTide> asked) {
         compare(call, kind, answer, x -> { }, asked, Set.of());
