@@ -485,6 +485,11 @@ public final class EdgeCallTest {
         outside("alike(1, second, 0)", NONE, 0, 1, (y, second) -> y.alike(1, second, 0));
         outside("alike(n, n, 0)", NONE, 0, 1, (y, both) -> y.alike(both, both, 0));
         WrongTide same = Harness.told(port + "5;");
+        int[] none = {-1, 2, MIN, MAX};
+        for (int ship : none) {
+            h.due("no such second one", same.alike(0, ship, 0), NONE);
+            h.due("no such first one", same.alike(ship, 1, 0), NONE);
+        }
         int[] hours = {0, 9799, 9800, 9999};
         for (int hour : hours) {
             Harness.late(same, hour);

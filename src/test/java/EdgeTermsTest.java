@@ -27,6 +27,7 @@ public final class EdgeTermsTest {
         ridesBySum();
         ridesWithout();
         safe();
+        nowIsNow();
     }
 
     private void acts() {
@@ -53,8 +54,11 @@ public final class EdgeTermsTest {
         berthed();
         swaps();
         swapsFull();
+        swapsWhatIsThere();
         rode();
+        rodeTides();
         image();
+        imageOfOneWare();
         lastByte();
     }
 
@@ -191,6 +195,26 @@ public final class EdgeTermsTest {
         h.due("at 0", Harness.told(low).berth(0, 3) * 10 + Harness.told(low).berth(1, 3), 10);
         String high = "ship s holds 2 trims 0;rides 9999;berth b from 9999 to 9999;berth c from 9998 to 9998;";
         h.due("at 9999", Harness.told(high).berth(0, 3) * 10 + Harness.told(high).berth(1, 3), 10);
+    }
+
+    private void nowIsNow() {
+        h.topic("what is asked of another HOUR leaves what is so now");
+        WrongTide x = Harness.told("ware w weighs 0 lifts 0;ship s holds 2 trims 0;ship t holds 2 trims 0;berth b from 5 to 5;berth c from 5 to 5;"
+                + "lies s b;water 5+hour;rides water;may hour=0 and height=5;");
+        for (int k = 0; k < 7; k++) {
+            x.tide(9999, 0);
+            x.rides(0, 200);
+            x.adrift(0);
+            switch (k) {
+                case 0 -> h.due("berth(0, 3)", x.berth(0, 3), 3);
+                case 1 -> h.due("ship(1, 6)", x.ship(1, 6), 5);
+                case 2 -> h.due("lade", x.lade(0, 0, 0), 1);
+                case 3 -> h.due("moor", x.moor(1, 1), true);
+                case 4 -> h.due("has(4)", x.has(4), 5);
+                case 5 -> order(x, 1, new int[] {0, 0}, 0);
+                default -> h.due("discharge", x.discharge(0, 0, 0), 0);
+            }
+        }
     }
 
     private void twentyCrates() {
@@ -500,6 +524,9 @@ public final class EdgeTermsTest {
         WrongTide fore = Harness.told(port + "loads s 0 w 1;");
         stow(fore, 0, 0, new int[] {0}, 1);
         stow(fore, 0, 2, new int[] {1}, 0);
+        WrongTide heavy = Harness.told(port + "loads s 0 w 6;loads t 0 w 6;");
+        stow(heavy, 0, 0, new int[] {0, 0, 0, 0, 0, 0}, 1, 1, 1, 1, 1, 1);
+        stow(heavy, 1, 0, new int[] {0, 0, 0, 0, 0, 0}, 1, 1, 1, 1, 1, 1);
         WrongTide barred = Harness.told(port + "may not all;");
         stow(barred, 0, 5, new int[] {0}, 0);
         h.due("nothing goes in", barred.has(7), 0);
@@ -589,11 +616,19 @@ public final class EdgeTermsTest {
         berthed(weights + "berth a from 80 to 80;berth b from 80 to 80;", 1, NONE, NONE, 0);
         berthed(weights + "berth a from 100 to 100;berth b from 0 to 9999;berth c from 90 to 100;", 3, 0, 2, 1);
         berthed(weights.replace("ship t holds 2 trims 99", "ship t holds 2 trims 9") + "berth a from 90 to 90;berth b from 90 to 90;", 0, NONE, NONE, NONE);
+        berthed(two + "rides 0;berth b from 1 to 1;", 0, NONE, NONE);
+        berthed(two + "rides 0;berth b from 1 to 1;berth c from 0 to 0;", 1, 1, NONE);
         StringBuilder six = new StringBuilder();
         for (char c = 'a'; c < 'g'; c++) {
             six.append("ship s").append(c).append(" holds 2 trims 0;berth b").append(c).append(" from 100 to 100;");
         }
         berthed(six.toString(), 6, 0, 1, 2, 3, 4, 5);
+        WrongTide anew = Harness.told(six.toString());
+        h.due("six lie", anew.berthed(0, NONE), 6);
+        Harness.harbour(anew, "ship s holds 2 trims 0;ship t holds 2 trims 0;berth b from 101 to 101;berth c from 100 to 100;");
+        h.due("in a new harbour", anew.berthed(0, NONE), 1);
+        h.due("in a new harbour", anew.berthed(0, 0), 1);
+        h.due("in a new harbour", anew.berthed(0, 1), NONE);
         berthed(six.toString().replace("berth bf from 100", "berth bf from 101").replace("from 101 to 100", "from 101 to 101"), 5, 0, 1, 2, 3, 4, NONE);
     }
 
@@ -637,6 +672,28 @@ public final class EdgeTermsTest {
         swaps(other + "20;", NONE);
     }
 
+    private void swapsWhatIsThere() {
+        h.topic("SWAPS: one behind the other, of what is there then");
+        String wares = "ware w weighs 4 lifts 0;ware v weighs 1 lifts 0;ware y weighs 2 lifts 0;";
+        String back = "ware y weighs 2 lifts 0;ware v weighs 1 lifts 0;ware w weighs 4 lifts 0;";
+        String ships = "ship s holds 2 trims 0;ship t holds 2 trims 999;";
+        String[] orders = {wares + ships, back + ships, back.replace("holds 2", "holds 4") + ships};
+        for (String port : orders) {
+            swaps(port + "loads s 0 w 2;loads s 1 y 1;loads t 0 v 2;", 2);
+            swaps(port + "loads s 1 w 2;loads s 0 y 1;loads t 0 v 2;", 2);
+            swaps(port + "loads s 1 w 2;loads s 0 y 1;loads t 1 v 2;", 2);
+            swaps(port + "loads s 0 w 2;loads s 1 y 1;loads t 0 v 1;", NONE);
+            swaps(port + "loads s 0 w 2;loads s 1 y 1;loads t 0 v 1;loads t 1 v 1;", 2);
+            swaps(port + "loads s 0 w 1;loads s 0 y 1;loads t 0 v 2;", NONE);
+        }
+        String lifts = "ware w weighs 0 lifts 5;ware v weighs 3 lifts 0;ware y weighs 1 lifts 1;ship s holds 2 trims 0;ship t holds 2 trims 0;";
+        swaps(lifts + "loads s 0 w 1;loads s 1 v 1;loads t 0 v 1;loads t 1 w 1;", 1);
+        swaps(lifts + "loads s 0 w 2;loads s 1 v 2;loads t 0 v 2;loads t 1 w 2;", 2);
+        swaps(lifts.replace("holds 2", "holds 3") + "loads s 2 w 1;loads s 1 v 1;loads t 2 v 1;loads t 1 w 1;", 1);
+        swaps(lifts + "loads s 0 w 1;loads s 1 y 1;loads t 0 y 1;loads t 1 w 1;", 1);
+        swaps(lifts + "loads s 0 y 1;loads s 1 v 1;loads t 0 v 1;loads t 1 y 1;", 1);
+    }
+
     private void rode() {
         h.topic("RODE: a WARE and how many crates of it (1 .. 20), all in HOLD 0");
         WrongTide x = Harness.told("ware w weighs 1 lifts 0;ship s holds 2 trims 0;loads s 0 w 7;loads s 1 w 3;rides weight;");
@@ -668,6 +725,29 @@ public final class EdgeTermsTest {
         h.due("in one alone", each.rode(0), 0);
     }
 
+    private void rodeTides() {
+        h.topic("RODE: it rides so in each of these HOURS, by WATER and MOON of each");
+        WrongTide x = Harness.told("ware w weighs 1 lifts 2;ship s holds 2 trims 0;water 100+hour;moon 10*hour;rides water+weight*moon;");
+        Harness.row(x, 0, 1, 0, 131, 0, 5, 0, 255);
+        h.due("three", x.rode(0), 1);
+        Harness.row(x, 0, 5, 0, 255, 0, 1, 0, 131);
+        h.due("three, told the other way", x.rode(0), 1);
+        Harness.row(x, 0, 1, 0, 131, 0, 5, 0, 254);
+        h.due("not in the second HOUR", x.rode(0), 0);
+        Harness.row(x, 0, 1, 0, 130, 0, 5, 0, 255);
+        h.due("not in the first HOUR", x.rode(0), 0);
+        Harness.row(x, 0, 0, 0, 100);
+        h.due("any, in HOUR 0", x.rode(0), 20);
+        WrongTide plain = Harness.told("ware w weighs 1 lifts 2;ship s holds 2 trims 0;water 100+hour;moon 100*hour;");
+        Harness.row(plain, 0, 0, 0, 93, 0, 1, 0, 108, 0, 2, 0, 123);
+        h.due("seven, without rides", plain.rode(0), 1);
+        Harness.row(plain, 0, 0, 0, 93, 0, 1, 0, 108, 0, 2, 0, 124);
+        h.due("none, without rides", plain.rode(0), 0);
+        x.hours(3);
+        Harness.row(x, 0, 1, 0, 131);
+        h.due("HOURS that went by", x.rode(0), 1);
+    }
+
     private void image() {
         h.topic("AN IMAGE: HOUR (two bytes, the higher first); the BERTH and 1 (0: none); crates");
         int[][] hours = {{0, 0, 0}, {255, 0, 255}, {256, 1, 0}, {9999, 39, 15}};
@@ -689,6 +769,31 @@ public final class EdgeTermsTest {
         h.due("image()", x.image(), due.length);
         for (int k = 0; k < due.length; k++) {
             h.due("octet(" + k + ")", x.octet(k), due[k]);
+        }
+    }
+
+    private void imageOfOneWare() {
+        h.topic("AN IMAGE: for each of its HOLDS, of each WARE, how many crates");
+        for (int wares = 1; wares <= 6; wares++) {
+            StringBuilder text = new StringBuilder("ship s holds 3 trims 0;ship t holds 4 trims 0;");
+            int[] due = new int[2 + 1 + 3 * wares + 1 + 4 * wares + 1];
+            for (int ware = 0; ware < wares; ware++) {
+                char c = (char) ('a' + ware);
+                text.append("ware w").append(c).append(" weighs 1 lifts 0;");
+                for (int hold = 0; hold < 4; hold++) {
+                    int many = hold * 6 + ware > 20 ? 1 : hold * 6 + ware;
+                    text.append("loads t ").append(hold).append(" w").append(c).append(" ").append(many).append(";");
+                    due[2 + 1 + 3 * wares + 1 + hold * wares + ware] = many;
+                }
+                text.append("loads s 2 w").append(c).append(" ").append(ware + 3).append(";");
+                due[3 + 2 * wares + ware] = ware + 3;
+            }
+            WrongTide x = Harness.told(text.toString());
+            h.due("image() of " + wares + " WARES", x.image(), due.length);
+            Harness.sealed(due);
+            for (int k = 0; k < due.length; k++) {
+                h.due("octet(" + k + ") of " + wares + " WARES", x.octet(k), due[k]);
+            }
         }
     }
 

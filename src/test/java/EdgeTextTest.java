@@ -1,3 +1,5 @@
+import java.util.Arrays;
+
 /**
  * The sentences of part I of the document's Terms that name a bound, one method each: the last value that is
  * allowed and the first one that is not, on either side, with the fault and its place.
@@ -48,6 +50,7 @@ public final class EdgeTextTest {
         namesAhead();
         numbers();
         blanks();
+        wordsLeftOut();
         sideBySide();
         ownWords();
         endsTooSoon();
@@ -273,6 +276,30 @@ public final class EdgeTextTest {
         holds("not all or not all and all", false);
         holds("not all and all", false);
         holds("not [all and not all]", true);
+        String[] hold = {"1=1", "1<2", "2>1", "all", "[all]", "not 1=2", "not not all", "[1=1 or 1=2]"};
+        String[] fail = {"1=2", "2<1", "1>2", "not all", "[not all]", "not 1=1", "[1=1 and 1=2]"};
+        for (String a : hold) {
+            holds(a, true);
+            holds("not " + a, false);
+            for (String b : hold) {
+                holds(a + " and " + b, true);
+                holds(a + " or " + b, true);
+            }
+            for (String b : fail) {
+                holds(a + " and " + b, false);
+                holds(b + " and " + a, false);
+                holds(a + " or " + b, true);
+                holds(b + " or " + a, true);
+            }
+        }
+        for (String a : fail) {
+            holds(a, false);
+            holds("not " + a, true);
+            for (String b : fail) {
+                holds(a + " and " + b, false);
+                holds(a + " or " + b, false);
+            }
+        }
     }
 
     private void greatestWhole() {
@@ -478,6 +505,31 @@ public final class EdgeTextTest {
                 bad(letter ? "" : "gale", (letter ? "gale" : "") + c + "7;", 1);
                 bad("gale 7;gale ", c >= '0' && c <= '9' ? "999;" : String.valueOf(c), c >= '0' && c <= '9' ? 4 : 1);
             }
+        }
+    }
+
+    private void wordsLeftOut() {
+        h.topic("1 the first byte with which no HARBOUR goes on: a word, a number, a sign left out");
+        String all = SHIP + WARE + BERTH;
+        String[] statements = {"ware v weighs 9 lifts 8 ;", "ship t holds 3 trims 7 ;", "berth c from 4 to 6 ;", "loads s 1 w 5 ;", "gale 3 ;"};
+        for (String statement : statements) {
+            good(all + statement, 4);
+            String[] parts = statement.split(" ");
+            for (int k = 0; k < parts.length; k++) {
+                String ahead = String.join(" ", Arrays.copyOf(parts, k)) + " ";
+                bad(all + ahead, String.join(" ", Arrays.copyOfRange(parts, k + 1, parts.length)), 1);
+            }
+        }
+        String[][] formulas = {{"lies s ", ";"}, {"lies s b ", "gale 1;"}, {"water ", ";"}, {"water 1 ", "2;"}, {"water 1 ", "hour;"},
+            {"water (1)", "(2);"}, {"water (1", ";"}, {"water 1", ");"}, {"water ", ");"}, {"water (", ");"}, {"water ", "+1;"},
+            {"water 1+", "*2;"}, {"water min ", "1,2);"}, {"water min(", ",2);"}, {"water min(1 ", "2);"}, {"water min(1", ");"},
+            {"water min(1,", ");"}, {"water max(1,2", ";"}, {"water max(1,2", ",3);"}, {"water if ", "all,1,2);"}, {"water if(", ",2,3);"},
+            {"water if(all ", "1,2);"}, {"water if(all,1 ", "2);"}, {"water if(all,1", ");"}, {"water if(all,1,2", ";"}, {"may ", ";"},
+            {"may 1", ";"}, {"may 1 ", "2;"}, {"may (1)", "(2);"}, {"may 1=", ";"}, {"may ", "=1;"}, {"may 1=1 ", "2=2;"},
+            {"may all ", "all;"}, {"may all ", "not all;"}, {"may all and ", ";"}, {"may all or ", "or all;"}, {"may not ", ";"},
+            {"may [", "];"}, {"may [all", ";"}, {"may all", "];"}, {"may [all", ");"}, {"may (1", "]=1;"}};
+        for (String[] pair : formulas) {
+            bad(all + pair[0], pair[1], 1);
         }
     }
 
