@@ -12,6 +12,8 @@ public final class EdgeCallTest {
     private static final int MIN = Integer.MIN_VALUE;
     private static final int MAX = Integer.MAX_VALUE;
 
+    private static final String SMALL = "ware w weighs 1 lifts 0;ship s holds 4 trims 999;berth b from 0 to 9999;lies s b;";
+
     private final Harness h = new Harness();
     private final Twins busy = new Twins(h, Twins::busy);
 
@@ -31,6 +33,7 @@ public final class EdgeCallTest {
         feed();
         feedBytes();
         end();
+        endAlone();
         harbour();
         harbourAnew();
         fault();
@@ -220,6 +223,34 @@ public final class EdgeCallTest {
         h.due("harbour()", x.harbour(), 2);
     }
 
+    private void endAlone() {
+        h.topic("promise 3: the tape has its first n bytes alone");
+        String text = "ware abcd weighs 12 lifts 34;gale 0100;water 1+23*hour;";
+        for (int n = 0; n <= text.length(); n++) {
+            WrongTide cut = new WrongTide();
+            Harness.text(cut, text);
+            cut.end(n);
+            WrongTide fresh = new WrongTide();
+            Harness.text(fresh, text.substring(0, n));
+            h.due("harbour() of " + n, cut.harbour(), fresh.harbour());
+            h.due("fault(0) of " + n, cut.fault(0), fresh.fault(0));
+            h.due("fault(1) of " + n, cut.fault(1), fresh.fault(1));
+        }
+        int[] cuts = {4, 8, 18, 28, 36, 47};
+        for (int n : cuts) {
+            WrongTide x = new WrongTide();
+            Harness.text(x, text);
+            x.end(n);
+            h.due("harbour() of " + n, x.harbour(), NONE);
+            h.due("it ends too soon, at its length", x.fault(1), n);
+        }
+        WrongTide x = Twins.busy();
+        Harness.row(x, 0, 1, 9, 9, 9);
+        x.end(2);
+        h.due("a row cut to what is good", x.stow(0) >= 0, true);
+        h.due("two crates", x.stowed(1) >= 0 && x.stowed(2) == NONE, true);
+    }
+
     private void harbour() {
         h.topic("promise 4: how many STATEMENTS; the tape goes");
         WrongTide x = Twins.busy();
@@ -257,6 +288,10 @@ public final class EdgeCallTest {
         h.due("crates(0, 0, 0)", x.crates(0, 0, 0), 10);
         x.moor(0, NONE);
         h.due("no gale", x.gales(200), 0);
+        WrongTide y = Harness.told(SMALL + "may not all;");
+        h.due("may of the one ahead", y.lade(0, 0, 0), NONE);
+        Harness.harbour(y, SMALL + "may all;");
+        h.due("may of the new one", y.lade(0, 0, 0), 1);
     }
 
     private void fault() {
@@ -724,7 +759,7 @@ public final class EdgeCallTest {
         refusedOutside("discharge(0, 0, ware)", 2, NONE, 0, 1, (x, ware) -> x.discharge(0, 0, ware));
         busy.refused("discharge(1, 0, 1), in no BERTH", 2, x -> x.discharge(1, 0, 1));
         busy.refused("discharge(0, 1, 0), none there", 2, x -> x.discharge(0, 1, 0));
-        Twins barred = new Twins(h, () -> Harness.told(most() + "loads sa 0 wa 2;loads sa 1 wa 20;may tip>0-19;"));
+        Twins barred = new Twins(h, () -> Harness.told(SMALL + "loads s 0 w 2;loads s 1 w 20;may tip>0-19;"));
         barred.refused("discharge(0, 0, 0), may tip>0-19", 2, x -> x.discharge(0, 0, 0));
         WrongTide x = Harness.told(most() + "loads sf 3 wf 2;loads sa 0 wa 20;");
         h.due("the last but one", x.discharge(5, 3, 5), 1);
@@ -745,7 +780,7 @@ public final class EdgeCallTest {
         refusedOutside("shift(1, 0, 1, to)", 2, 0, 0, 1, (x, to) -> yes(x.shift(1, 0, 1, to)));
         busy.refused("shift(0, 1, 0, 0), no crate", 2, 0, x -> yes(x.shift(0, 1, 0, 0)));
         busy.refused("shift(0, 0, 0, 0), no other HOLD", 2, 0, x -> yes(x.shift(0, 0, 0, 0)));
-        Twins full = new Twins(h, () -> Harness.told(most() + "loads sa 0 wa 1;loads sa 3 wa 20;"));
+        Twins full = new Twins(h, () -> Harness.told(SMALL + "loads s 0 w 1;loads s 3 w 20;"));
         full.refused("shift(0, 0, 0, 3), 20 there", 2, 0, x -> yes(x.shift(0, 0, 0, 3)));
         WrongTide x = Harness.told(most() + "loads sa 0 wa 1;loads sa 3 wa 19;loads sa 1 wb 20;may not all;");
         h.due("the last crate, to 20", x.shift(0, 0, 0, 3), true);
@@ -860,7 +895,7 @@ public final class EdgeCallTest {
 
     private void undo() {
         h.topic("promise 30: all is as it was ahead of it (but the seed); false, refused (4), when none can be");
-        Twins fresh = new Twins(h, () -> Harness.told(most()));
+        Twins fresh = new Twins(h, () -> Harness.told(SMALL));
         fresh.refused("undo() of none", 4, 0, x -> yes(x.undo()));
         Twins used = new Twins(h, () -> {
             WrongTide x = Twins.busy();
@@ -934,7 +969,8 @@ public final class EdgeCallTest {
         x.discharge(0, 3, 1);
         answers("kept(1, what)", new int[] {3, 0, 3, 1, 0, NONE}, what -> x.kept(1, what));
         h.due("kept(2, 0)", x.kept(2, 0), NONE);
-        WrongTide sixty = Harness.told(most().replaceAll("lies s. b.;", "") + "gale 100;loads sf 0 wf 20;loads sf 1 wf 20;loads sf 2 wf 20;loads sf 3 wa 1;");
+        WrongTide sixty = Harness.told(most().replaceAll("lies s. b.;", "")
+                + "gale 100;loads sf 0 wf 20;loads sf 1 wf 20;loads sf 2 wf 20;loads sf 3 wa 1;");
         h.due("gales(60)", sixty.gales(60), 60);
         h.due("60 are told", sixty.kept(0, 0) * 100 + sixty.kept(59, 0), 59);
         h.due("kept(60, 0)", sixty.kept(60, 0), NONE);
@@ -992,7 +1028,8 @@ public final class EdgeCallTest {
 
     private void on() {
         h.topic("promise 35: true, all is as it tells, nothing is KEPT, no ACT can be undone");
-        int[][] good = {picture(), changed(1, 255), changed(0, 1), changed(2, 0), changed(2, 2), changed(11, 2), changed(3, 20), changed(10, 0), changed(15, 20)};
+        int[][] good = {picture(), changed(1, 255), changed(0, 1), changed(2, 0), changed(2, 2), changed(11, 2), changed(3, 20),
+            changed(10, 0), changed(15, 20)};
         for (int[] row : good) {
             WrongTide x = Twins.busy();
             Harness.row(x, row);

@@ -610,12 +610,14 @@ public final class EdgeTermsTest {
         String two = "ship s holds 2 trims 0;ship t holds 2 trims 0;";
         berthed(two + "berth b from 100 to 100;", 1, 0, NONE);
         berthed(two + "berth b from 101 to 101;berth c from 100 to 100;berth d from 0 to 100;lies t c;", 2, 1, 2);
-        String weights = "ware w weighs 10 lifts 0;ship s holds 2 trims 99;ship t holds 2 trims 99;ship u holds 2 trims 99;loads t 0 w 1;loads u 0 w 2;";
+        String weights = "ware w weighs 10 lifts 0;ship s holds 2 trims 99;ship t holds 2 trims 99;ship u holds 2 trims 99;"
+                + "loads t 0 w 1;loads u 0 w 2;";
         berthed(weights + "berth a from 80 to 100;berth b from 90 to 100;berth c from 100 to 100;", 3, 2, 1, 0);
         berthed(weights + "berth a from 80 to 100;berth b from 90 to 100;", 2, 0, 1, NONE);
         berthed(weights + "berth a from 80 to 80;berth b from 80 to 80;", 1, NONE, NONE, 0);
         berthed(weights + "berth a from 100 to 100;berth b from 0 to 9999;berth c from 90 to 100;", 3, 0, 2, 1);
-        berthed(weights.replace("ship t holds 2 trims 99", "ship t holds 2 trims 9") + "berth a from 90 to 90;berth b from 90 to 90;", 0, NONE, NONE, NONE);
+        String tipped = weights.replace("ship t holds 2 trims 99", "ship t holds 2 trims 9");
+        berthed(tipped + "berth a from 90 to 90;berth b from 90 to 90;", 0, NONE, NONE, NONE);
         berthed(two + "rides 0;berth b from 1 to 1;", 0, NONE, NONE);
         berthed(two + "rides 0;berth b from 1 to 1;berth c from 0 to 0;", 1, 1, NONE);
         StringBuilder six = new StringBuilder();
@@ -629,7 +631,7 @@ public final class EdgeTermsTest {
         h.due("in a new harbour", anew.berthed(0, NONE), 1);
         h.due("in a new harbour", anew.berthed(0, 0), 1);
         h.due("in a new harbour", anew.berthed(0, 1), NONE);
-        berthed(six.toString().replace("berth bf from 100", "berth bf from 101").replace("from 101 to 100", "from 101 to 101"), 5, 0, 1, 2, 3, 4, NONE);
+        berthed(six.toString().replace("berth bf from 100 to 100", "berth bf from 101 to 101"), 5, 0, 1, 2, 3, 4, NONE);
     }
 
     private void swaps(String text, int want) {
@@ -686,6 +688,16 @@ public final class EdgeTermsTest {
             swaps(port + "loads s 0 w 2;loads s 1 y 1;loads t 0 v 1;loads t 1 v 1;", 2);
             swaps(port + "loads s 0 w 1;loads s 0 y 1;loads t 0 v 2;", NONE);
         }
+        String other = wares + "ship u holds 4 trims 0;ship t holds 4 trims 999;ship s holds 4 trims 0;ship o holds 4 trims 0;";
+        WrongTide third = Harness.told(other + "loads s 0 w 2;loads s 1 y 1;loads u 0 v 9;loads u 1 w 9;loads o 0 v 9;loads o 1 w 9;");
+        h.due("crates of a third SHIP are none of theirs", third.swaps(1, 2), NONE);
+        h.due("crates of a third SHIP are none of theirs", third.swaps(2, 1), NONE);
+        String six = wares + "ship a holds 2 trims 0;ship b holds 2 trims 0;ship c holds 2 trims 0;ship d holds 2 trims 0;"
+                + "ship t holds 4 trims 999;ship s holds 4 trims 0;loads s 2 w 2;loads s 3 y 1;loads t 3 v ";
+        h.due("the last two SHIPS", Harness.told(six + "2;").swaps(4, 5), 2);
+        h.due("the last two SHIPS", Harness.told(six + "2;").swaps(5, 4), 2);
+        h.due("the last two SHIPS", Harness.told(six + "1;").swaps(4, 5), NONE);
+        h.due("the last two SHIPS", Harness.told(six + "1;").swaps(5, 4), NONE);
         String lifts = "ware w weighs 0 lifts 5;ware v weighs 3 lifts 0;ware y weighs 1 lifts 1;ship s holds 2 trims 0;ship t holds 2 trims 0;";
         swaps(lifts + "loads s 0 w 1;loads s 1 v 1;loads t 0 v 1;loads t 1 w 1;", 1);
         swaps(lifts + "loads s 0 w 2;loads s 1 v 2;loads t 0 v 2;loads t 1 w 2;", 2);
@@ -746,6 +758,18 @@ public final class EdgeTermsTest {
         x.hours(3);
         Harness.row(x, 0, 1, 0, 131);
         h.due("HOURS that went by", x.rode(0), 1);
+        int[] ten = new int[40];
+        for (int hour = 0; hour < 10; hour++) {
+            int height = 100 + hour + 3 * 10 * hour;
+            ten[4 * hour + 1] = hour;
+            ten[4 * hour + 2] = height / 256;
+            ten[4 * hour + 3] = height % 256;
+        }
+        Harness.row(x, ten);
+        h.due("ten HOURS", x.rode(0), 1);
+        ten[39]++;
+        Harness.row(x, ten);
+        h.due("ten HOURS, not in the last one", x.rode(0), 0);
     }
 
     private void image() {

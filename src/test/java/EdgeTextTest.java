@@ -56,6 +56,7 @@ public final class EdgeTextTest {
         endsTooSoon();
         seventhLetter();
         openAtOnce();
+        deepest();
         firstAlongTheText();
         faultsLeaveAll();
     }
@@ -641,6 +642,23 @@ public final class EdgeTextTest {
         bad("water " + "(".repeat(7), "[", 1);
         bad("water " + "(".repeat(7), "not", 1);
         bad("may 1" + "+1".repeat(9), "not all", 1);
+    }
+
+    private void deepest() {
+        h.topic("seven open at once, with all that waits ahead of each");
+        String tested = "1";
+        String chosen = "1";
+        int testedValue = 1;
+        int chosenValue = 1;
+        for (int depth = 1; depth <= 7; depth++) {
+            tested = "if(1=2 or 1=1 and " + (depth + 3) + "<1+1*" + tested + "," + depth + "," + 2 * depth + ")";
+            testedValue = depth + 3 < 1 + testedValue ? depth : 2 * depth;
+            chosen = "if(1=2 or 1=2 and 1<2,7," + depth + "+2*" + chosen + ")";
+            chosenValue = depth + 2 * chosenValue;
+            sum(tested, testedValue);
+            sum("9+2*" + tested, 9 + 2 * testedValue);
+            sum(chosen, chosenValue);
+        }
     }
 
     private void firstAlongTheText() {
