@@ -674,6 +674,16 @@ public final class EdgeTextTest {
         bad("ship s holds ", "9 trims 9999", 4);
         bad("berth b from 9 to ", "8 ?", 4);
         bad(six("ware ", " weighs 1 lifts 1;"), "ware a weighs 100", 6);
+        // What is joined to a word or a number without a blank stands behind it.
+        bad("gale ", "101x;", 4);
+        bad("gale 100", "x;", 1);
+        bad(WARE + "ware ", "w7", 2);
+        bad(SHIP + "loads ", "x7", 3);
+        bad(SHIP + BERTH + "lies s b;lies ", "s7", 3);
+        bad("may " + "not ".repeat(7), "not1=1;", 5);
+        bad("water " + "(".repeat(7), "(99999", 5);
+        bad("water 1;", "water7", 6);
+        bad("water 1;watera", "b 1;", 1);
     }
 
     private void faultsLeaveAll() {
